@@ -103,18 +103,18 @@ public final class SlackRows {
             throws IndexOutOfBoundsException, IllegalArgumentException, IllegalStateException {
         Node found = existing(group);
         requireRange(row, 0, ROWS - 1);
-        requireRange(place, 0, Integer.MAX_VALUE);
+        requireNotNegative(place);
         requireGroup(found);
         return tree.childNumber(found, row, place);
     }
 
     public int critical(int index) throws IllegalArgumentException {
-        requireRange(index, 0, Integer.MAX_VALUE);
+        requireNotNegative(index);
         return tree.criticalNumber(index);
     }
 
     public int running(int time) throws IllegalArgumentException {
-        requireRange(time, 0, Integer.MAX_VALUE);
+        requireNotNegative(time);
         return tree.countRunning(time);
     }
 
@@ -223,6 +223,12 @@ public final class SlackRows {
     private static void requireRange(int value, int least, int most) {
         if (!isBetween(value, least, most)) {
             throw new IllegalArgumentException("a number is out of range");
+        }
+    }
+
+    private static void requireNotNegative(int value) {
+        if (value < 0) {
+            throw new IllegalArgumentException("a number is negative");
         }
     }
 
@@ -380,11 +386,11 @@ public final class SlackRows {
         }
 
         int rowLength(int asked) {
-            return isBetween(asked, 0, ROWS - 1) ? rowLengths[asked] : 0;
+            return asked >= 0 && asked < ROWS ? rowLengths[asked] : 0;
         }
 
         void lengthenRow(int asked, int by) {
-            if (isBetween(asked, 0, ROWS - 1)) {
+            if (asked >= 0 && asked < ROWS) {
                 rowLengths[asked] += by;
             }
         }
@@ -519,15 +525,16 @@ public final class SlackRows {
         private Node findAhead(int index) {
             Node node = nodes[index];
             for (int i = index - 1; i > 0; i--) {
-                if (nodes[i].standsIn(node.groupNumber, node.row)) {
-                    return nodes[i];
+                Node other = nodes[i];
+                if (other.groupNumber == node.groupNumber && other.row == node.row) {
+                    return other;
                 }
             }
             return null;
         }
 
         private void measureLengths() {
-            for (int i = size - 1; i >= 0; i--) {
+            for (int i = 0; i < size; i++) {
                 for (int r = 0; r < ROWS; r++) {
                     nodes[i].rowLengths[r] = 0;
                 }
@@ -594,8 +601,7 @@ public final class SlackRows {
                 case TASK:
                     return !node.isTask && size < MOST_NODES;
                 case MOVE:
-                    Node target = find(second);
-                    return target != null && node.whyNotTo(target) == 0;
+                    return canMoveTo(node, find(second));
                 case DROP:
                     return node.number != ROOT;
                 case BORROW:
@@ -605,6 +611,10 @@ public final class SlackRows {
                 default:
                     return node.isTask;
             }
+        }
+
+        private static boolean canMoveTo(Node node, Node target) {
+            return target != null && node.whyNotTo(target) == 0;
         }
 
         /** Makes a change that refusal() does not refuse, and returns what its method answers. */
