@@ -1,97 +1,12 @@
-import java.lang.reflect.InvocationTargetException;
-import java.lang.reflect.Method;
-
-/**
- * One or more runs for each promise, each on a new object. A line is a call and
- * its answer; the line write "..." types a text, byte by byte.
- */
+/** One or more runs for each promise, each on a new object, with answers worked out by hand. */
 public final class SlackRowsPromises {
-    private static int wrong = 0;
-    private static int lines = 0;
-
-    private static Object call(SlackRows x, String name, String[] words) throws Exception {
-        Class<?>[] types = new Class<?>[words.length];
-        Object[] values = new Object[words.length];
-        for (int i = 0; i < words.length; i++) {
-            types[i] = int.class;
-            values[i] = Integer.parseInt(words[i].trim());
-        }
-        Method method = SlackRows.class.getMethod(name, types);
-        return method.invoke(x, values);
-    }
-
-    private static String answer(SlackRows x, String written) throws Exception {
-        int open = written.indexOf('(');
-        String inside = written.substring(open + 1, written.length() - 1).trim();
-        String[] words = inside.isEmpty() ? new String[0] : inside.split(",");
-        try {
-            return "" + call(x, written.substring(0, open), words);
-        } catch (InvocationTargetException e) {
-            return e.getCause().getClass().getSimpleName();
-        }
-    }
-
-    private static String due(String told) {
-        switch (told) {
-            case "no node": return "IndexOutOfBoundsException";
-            case "range": return "IllegalArgumentException";
-            case "state": return "IllegalStateException";
-            default: return told;
-        }
-    }
-
-    private static void line(SlackRows x, int promise, String line) throws Exception {
-        lines++;
-        if (line.startsWith("write ")) {
-            String text = line.substring(line.indexOf('"') + 1, line.lastIndexOf('"'));
-            for (int i = 0; i < text.length(); i++) {
-                x.type(text.charAt(i));
-            }
-            return;
-        }
-        String[] halves = line.split(" = ");
-        String got = answer(x, halves[0].trim());
-        if (!got.equals(due(halves[1].trim()))) {
-            wrong++;
-            System.out.println("promise " + promise + ": " + line + ", but the answer was " + got);
-        }
-    }
-
     private static void run(int promise, String script) throws Exception {
-        SlackRows x = new SlackRows();
-        for (String each : script.split("\n")) {
-            int behind = each.indexOf(" // ");
-            String line = (behind < 0 ? each : each.substring(0, behind)).trim();
-            if (!line.isEmpty()) {
-                line(x, promise, line);
-            }
-        }
+        Script.run("promise " + promise, script);
     }
 
-    /** A digest put together from the values that the document lists. */
-    private static void digestOf(String what, SlackRows x, int states, int... numbers) {
-        long h = 43828 * 31L + states;
-        for (int i = 0; i < 12; i++) {
-            h = 31 * h + x.whole(i);
-        }
-        for (int n : numbers) {
-            h = 31 * h + n;
-            for (int i = 0; i < 13; i++) {
-                h = 31 * h + x.node(n, i);
-            }
-            for (int k = 0; x.node(n, 0) == 0 && k < 16; k++) {
-                h = 31 * h + x.row(n, k / 4, k % 4);
-            }
-        }
-        for (int i = 0; x.critical(i) != SlackRows.NONE; i++) {
-            h = 31 * h + x.critical(i);
-        }
-        h = 31 * h + x.bestCut();
-        lines++;
-        if (x.digest() != h) {
-            wrong++;
-            System.out.println("promise 25: " + what + ": the digest is " + x.digest() + ", due is " + h);
-        }
+    /** The digest after a run is compared with one put together from the values that the object tells. */
+    private static void digestOf(String what, int states, String script) throws Exception {
+        Script.same("promise 25: " + what, Script.run(what, script).digest(), Snapshot.digest(script, states));
     }
 
     private static void promise1() throws Exception {
@@ -940,29 +855,33 @@ public final class SlackRowsPromises {
             """);
     }
 
-    private static void promise25() {
-        SlackRows full = new SlackRows();
-        int[] all = new int[24];
+    private static void promise25() throws Exception {
+        StringBuilder full = new StringBuilder();
         for (int n = 1; n < 24; n++) {
-            all[n] = n % 3 == 1 ? full.addGroup(Math.max(0, n - 3), n % 4) : full.addTask(0, n % 4, n % 5);
+            full.append(n % 3 == 1 ? "addGroup(" + Math.max(0, n - 3) + ", " : "addTask(0, ");
+            full.append(n % 4 + (n % 3 == 1 ? ")" : ", " + n % 5 + ")") + "\n");
         }
-        digestOf("a full tree", full, 4, all);
-        SlackRows x = new SlackRows();
-        digestOf("a new object", x, 0, 0);
-        x.addTask(0, 1, 7);
-        x.addGroup(0, 2);
-        x.addTask(2, 0, 3);
-        digestOf("three nodes", x, 3, 0, 1, 2, 3);
-        x.borrow(3, 2);
-        x.move(1, 2, 0);
-        x.setDeadline(4);
-        x.type(32);
-        digestOf("a full stack", x, 4, 0, 1, 2, 3);
-        x.addTask(2, 3, 12);
-        x.remove(3);
-        digestOf("a number left out", x, 4, 0, 1, 2, 4);
-        x.undo();
-        digestOf("after undo", x, 3, 0, 1, 2, 3, 4);
+        digestOf("a full tree", 4, full.toString());
+        digestOf("a new object", 0, "");
+        String three = """
+            addTask(0, 1, 7)
+            addGroup(0, 2)
+            addTask(2, 0, 3)
+            """;
+        digestOf("three nodes", 3, three);
+        String stacked = three + """
+            borrow(3, 2)
+            move(1, 2, 0)
+            setDeadline(4)
+            type(32)
+            """;
+        digestOf("a full stack", 4, stacked);
+        String leftOut = stacked + """
+            addTask(2, 3, 12)
+            remove(3)
+            """;
+        digestOf("a number left out", 4, leftOut);
+        digestOf("after undo", 3, leftOut + "undo()");
     }
 
     public static void main(String[] args) throws Exception {
@@ -991,9 +910,6 @@ public final class SlackRowsPromises {
         promise23();
         promise24();
         promise25();
-        System.out.println(lines + " lines, " + wrong + " wrong");
-        if (wrong != 0) {
-            System.exit(1);
-        }
+        Script.finish();
     }
 }
