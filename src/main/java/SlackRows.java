@@ -398,8 +398,8 @@ public final class SlackRows {
         int longestRowBut(int asked) {
             int longest = 0;
             for (int i = 0; i < ROWS; i++) {
-                if (i != asked) {
-                    longest = Math.max(longest, rowLengths[i]);
+                if (i != asked && rowLengths[i] > longest) {
+                    longest = rowLengths[i];
                 }
             }
             return longest;

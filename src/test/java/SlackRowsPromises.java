@@ -884,6 +884,26 @@ public final class SlackRowsPromises {
         digestOf("after undo", 3, leftOut + "undo()");
     }
 
+    private static void exampleOfReadme() throws Exception {
+        Script.run("the example of README.md", """
+            addTask(0, 0, 10) = 1
+            addGroup(0, 0) = 2
+            addTask(2, 0, 5) = 3
+            addTask(2, 1, 8) = 4
+            whole(2) = 18
+            node(3, 9) = 3
+            borrow(3, 2) = 2
+            growsTo(3) = 8
+            endWith(4, 12) = 22
+            critical(1) = 4
+            undo() = 3
+            node(3, 5) = 0
+            write "last 4 9; until 15;"
+            runCommands() = 2
+            whole(4) = 4
+            """);
+    }
+
     public static void main(String[] args) throws Exception {
         promise1();
         promise2();
@@ -910,6 +930,7 @@ public final class SlackRowsPromises {
         promise23();
         promise24();
         promise25();
+        exampleOfReadme();
         Script.finish();
     }
 }
